@@ -121,6 +121,7 @@ public final class ActsTest {
         e.is("the sling", x.undo(), 0);
         e.is("A", x.hammock(0, 0), 1);
         e.is("B", x.hammock(0, 1), 4);
+        e.is("WEIGHT stays", x.hammock(0, 2), 3);
         e.is("none", x.undo(), Expect.STATE);
     }
 

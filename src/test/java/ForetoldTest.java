@@ -14,6 +14,8 @@ public final class ForetoldTest {
         tellsWhoIsDown();
         tellsReach();
         meets();
+        endsBehind60Minutes();
+        givesBeforeItIsDown();
         givesSoonest();
         givesByFewest();
         goesEverywhere();
@@ -108,18 +110,41 @@ public final class ForetoldTest {
         e.is("hammock -1", x.meet(-1, 0), Expect.BAD);
         x.cord(3, 1);
         e.is("whoever is down", x.meet(0, 3), Expect.NONE);
-        HammockReach y = Expect.read("t40,0;c9,10,1,3;c1,3,1,2;s4,7,1,4;");
-        e.is("behind 60", y.meet(0, 2), brutally(y, 0, 2));
     }
 
-    /** MEET by reach() alone. */
-    private static int brutally(HammockReach x, int a, int b) {
-        for (int d = 0; d <= 60; d++) {
-            if ((x.reach(a, d) >> b & 1) == 1) {
-                return d;
-            }
-        }
-        return Expect.NONE;
+    private static void endsBehind60Minutes() {
+        // In MINUTE 68 these two are at one place, 11, and in none of the 61 before.
+        HammockReach x = Expect.read("t40,0;v8,11,1,5;v0,7,1,4;");
+        x.minutes(7);
+        e.is("meet behind 61", x.meet(0, 1), Expect.NONE);
+        x.minutes(1);
+        e.is("where one is", x.ahead(0, 60, 0), 11);
+        e.is("where the other is", x.ahead(1, 60, 0), 11);
+        e.is("meet behind 60", x.meet(0, 1), 60);
+        e.is("a gift would be there behind 61", x.soonest(0, 1), Expect.NONE);
+        e.is("so it is not given", x.hands(0, 1), Expect.NONE);
+        e.is("nobody has it", x.everywhere(0, 60), 1);
+        e.is("nor may have it", x.breaks(0, 1, 60, 0, 0), 0);
+        x.minutes(1);
+        e.is("there behind 60", x.soonest(0, 1), 60);
+        e.is("given once", x.hands(0, 1), 1);
+        e.is("behind 60", x.everywhere(0, 60), 3);
+        e.is("behind 59", x.everywhere(0, 59), 1);
+        e.is("may have it", x.breaks(0, 1, 60, 5, 1), 4);
+    }
+
+    private static void givesBeforeItIsDown() {
+        // The vine dips to the ground from MINUTE 10 on.
+        HammockReach x = Expect.read("t9,0;v0,1,9,0;o0,1,1,0;");
+        x.minutes(9);
+        e.is("soonest", x.soonest(0, 1), 1);
+        e.is("hands", x.hands(0, 1), 1);
+        e.is("everywhere", x.everywhere(0, 60), 3);
+        x.minutes(1);
+        e.is("meet", x.meet(0, 1), Expect.NONE);
+        e.is("soonest, too late", x.soonest(0, 1), Expect.NONE);
+        e.is("hands, too late", x.hands(0, 1), Expect.NONE);
+        e.is("everywhere, too late", x.everywhere(0, 60), 1);
     }
 
     private static void givesSoonest() {
@@ -141,6 +166,10 @@ public final class ForetoldTest {
     private static void givesByFewest() {
         e.is("chain", Expect.read(CHAIN).hands(0, 3), 3);
         e.is("wider", Expect.read(WIDE).hands(0, 3), 2);
+        HammockReach six = Expect.read(
+            "t9,1;o0,1,1,0;o1,2,1,0;o2,3,1,0;o3,4,1,0;o4,5,1,0;o5,6,1,0;");
+        e.is("by all", six.hands(0, 5), 5);
+        e.is("and soonest", six.soonest(0, 5), 5);
         HammockReach x = Expect.read(SWUNG);
         e.is("by itself, though later", x.hands(0, 3), 1);
         e.is("back", x.hands(3, 1), 2);
@@ -174,6 +203,7 @@ public final class ForetoldTest {
         e.is("not as it is", x.stops(0, 3, 2), 0);
         e.is("just in time", x.stops(0, 3, 3), 6);
         e.is("either way", Expect.read(WIDE).stops(0, 3, 60), 0);
+        e.is("the first one", Expect.read("t9,1;o1,2,1,0;o0,1,1,0;o2,3,1,0;").stops(1, 2, 60), 1);
         HammockReach y = Expect.read(WIDE);
         y.cord(1, 1);
         e.is("one way is cut", y.stops(0, 3, 60), 4);
@@ -198,6 +228,8 @@ public final class ForetoldTest {
         slung("t5,1;o0,1,1,0;o2,3,1,0;c7,8,5,0;", 14, 2);
         // Without it is as soon.
         slung("t9,1;o0,1,1,0;o1,2,1,0;o4,9,1,0;", 57, 1);
+        // It meets the one at 7 behind 1, the one at 9 behind 2; from 7 on it is sooner by one.
+        slung("t9,0;o3,4,1,0;o4,5,1,0;c2,3,1,2;", 7, 2);
         HammockReach x = Expect.read("t9,1;o0,1,1,0;o2,3,1,0;o7,8,1,0;");
         x.cord(2, 1);
         e.is("it is cut", x.toSling(2, 0, 1, 0), Expect.NONE);

@@ -428,9 +428,8 @@ final class Model {
         State broken = s.copyOf();
         broken.beds.get(h).cut = true;
         State held = s.copyOf();
+        // As many cords are to come either way, so that both fractions have the same lower part.
         BigInteger[] no = chance(broken, h + 1, a, b, d, c);
-        // Broken and held have as many cords to come, so their fractions have one lower part,
-        // but for the cut one, which is asked no more.
         BigInteger[] yes = chance(held, h + 1, a, b, d, c);
         BigInteger above = no[0].multiply(BigInteger.valueOf(c)).add(yes[0].multiply(BigInteger.valueOf(10 - c)));
         return new BigInteger[] {above, no[1].multiply(BigInteger.TEN)};

@@ -72,6 +72,9 @@ public final class TextsTest {
         faulty("t-1,0;", 1, 1);
         faulty("t005,0;", 1, 1);
         faulty("t400,0;", 1, 1);
+        faulty("t0005,0;", 1, 1);
+        faulty("t5,00000000000000000000000000000000,", 3, 1);
+        faulty("t5,0;c4294967296,", 6, 1);
         faulty("t41,0;", 1, 2);
         faulty("t99,0;", 1, 2);
         faulty("t40", 3, 1);
