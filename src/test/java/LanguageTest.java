@@ -16,7 +16,6 @@ public final class LanguageTest {
         String code = text.replaceAll("(?s)/\\*.*?\\*/", "").replaceAll("//[^\n]*", "");
         staysInTheLanguage(code);
         makesNothingInACall(code);
-        keepsMethodsShort(code);
         showsOnlyTheFace();
         e.end();
     }
@@ -40,22 +39,6 @@ public final class LanguageTest {
         int fields = count(code, "(?m)^ +(private )?final [\\w\\[\\]]+ \\w+ = new [^;]*;");
         int constructor = count(code, "(?m)^ {12}(rows|images)\\[\\w\\] = new \\w+\\(\\);");
         e.is("things made in a call", count(code, "\\bnew\\b") - fields - constructor, 0);
-    }
-
-    private static void keepsMethodsShort(String code) {
-        int start = 0;
-        String[] lines = code.split("\n");
-        for (int i = 0; i < lines.length; i++) {
-            if (lines[i].matches("\\s+[\\w\\[\\] ]+\\([^;=]*\\) \\{") && !lines[i].matches("\\s+(\\} )?(if|for|switch|else).*")) {
-                start = i;
-                int parameters = lines[i].replaceAll("[^,]", "").length() + 1;
-                e.is(lines[i].trim() + " has too many parameters", parameters > 7 ? 1 : 0, 0);
-            }
-            if (lines[i].matches(" {4}( {4})?\\}")) {
-                e.is(lines[start].trim() + " is too long", i - start > 60 && start > 0 ? 1 : 0, 0);
-                start = 0;
-            }
-        }
     }
 
     private static void showsOnlyTheFace() {

@@ -2,7 +2,8 @@ import java.util.Random;
 
 /** Long runs of calls, drawn by fixed seeds, answered by the program and by the Model alike. */
 public final class ModelTest {
-    private static final int RUNS = 400, CALLS = 450;
+    /** No object answers more calls than are promised. */
+    private static final int RUNS = 600, CALLS = 512, DEAREST = 100;
     private static final String SORTS = "csvro";
     private static final int[] EDGES = {-1, 61, 1000, Integer.MIN_VALUE, Integer.MAX_VALUE, 256, 41, 12};
     private static final Expect e = new Expect();
@@ -11,6 +12,7 @@ public final class ModelTest {
     private final Random random;
     private final HammockReach x = new HammockReach();
     private final Model m = new Model();
+    private int calls;
 
     private ModelTest(int seed) {
         this.seed = seed;
@@ -25,25 +27,27 @@ public final class ModelTest {
     }
 
     private void run() {
-        for (int i = 0; i < random.nextInt(20); i++) {
-            call();
-        }
+        callFor(random.nextInt(40));
         readForest();
-        for (int i = 0; i < CALLS / 8; i++) {
-            call();
-        }
+        callFor(random.nextInt(CALLS));
         for (int what = -1; what <= 8; what++) {
             is("count(" + what + ")", x.count(what), m.count(what));
         }
-        if (random.nextInt(3) == 0) {
+        if (random.nextInt(3) == 0 && calls <= CALLS - 2 * DEAREST) {
             readForest();
         }
-        for (int i = 0; i < CALLS / 8; i++) {
+        callFor(CALLS);
+    }
+
+    private void callFor(int more) {
+        int most = Math.min(calls + more, CALLS - DEAREST);
+        while (calls < most) {
             call();
         }
     }
 
     private void is(String call, int got, int want) {
+        calls++;
         e.is("seed " + seed + ": " + call, got, want);
     }
 
